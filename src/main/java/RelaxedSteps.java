@@ -497,6 +497,7 @@ public final class RelaxedSteps {
         final Packing packing = new Packing();
         final Bundle bundle = new Bundle();
         final int[] multipliers = new int[DIMENSIONS];
+        private final int[] slopes = new int[DIMENSIONS];
         int rule = FIXED;
         int step = FIRST_STEP;
         int solution = 0;
@@ -583,7 +584,11 @@ public final class RelaxedSteps {
             }
             int better = 0;
             for (int made = 0; made < many; made++) {
-                better += oneIf(makeStep());
+                bundle.append(relaxedSet());
+                stepInto(multipliers);
+                stepsSince++;
+                stepsInAll++;
+                better += oneIf(lowerBestBound());
             }
             return better;
         }
@@ -621,43 +626,32 @@ public final class RelaxedSteps {
         /** Puts the multipliers that there are behind one step into a row, which may be that of now. */
         void stepInto(int[] row) {
             int relaxed = relaxedSet();
-            long length = length(relaxed);
+            long squares = 0;
             for (int dimension = 0; dimension < DIMENSIONS; dimension++) {
-                long moved = multipliers[dimension] + length * slope(dimension, relaxed);
+                int slope = slope(dimension, relaxed);
+                slopes[dimension] = slope;
+                squares += slope * slope;
+            }
+            long length = length(squares);
+            for (int dimension = 0; dimension < DIMENSIONS; dimension++) {
+                long moved = multipliers[dimension] + length * slopes[dimension];
                 row[dimension] = (int) Math.max(0, Math.min(MOST_MULTIPLIER, moved));
             }
         }
 
-        private boolean makeStep() {
-            bundle.append(relaxedSet());
-            stepInto(multipliers);
-            stepsSince++;
-            stepsInAll++;
-            return lowerBestBound();
-        }
-
-        private long length(int relaxed) {
+        private long length(long squares) {
             switch (rule) {
                 case FALLING:
                     return Math.max(1, step / Math.max(1, stepsSince + 1));
                 case TARGET:
-                    return targetLength(relaxed);
+                    if (squares <= 0) {
+                        return 0;
+                    }
+                    long above = packing.boundAt(multipliers) - solutionHundredths();
+                    return Math.max(1, Math.floorDiv(above, squares));
                 default:
                     return step;
             }
-        }
-
-        private long targetLength(int relaxed) {
-            long squares = 0;
-            for (int dimension = 0; dimension < DIMENSIONS; dimension++) {
-                long slope = slope(dimension, relaxed);
-                squares += slope * slope;
-            }
-            if (squares <= 0) {
-                return 0;
-            }
-            long above = packing.boundAt(multipliers) - solutionHundredths();
-            return Math.max(1, Math.floorDiv(above, squares));
         }
 
         private void forget() {
@@ -925,7 +919,7 @@ public final class RelaxedSteps {
         }
 
         private char here() {
-            return within(at, 0, length - 1) && at < PAD ? text[at] : END;
+            return at < length && at < PAD ? text[at] : END;
         }
     }
 }

@@ -8,7 +8,9 @@ import java.nio.file.Path;
 import java.util.ArrayList;
 import java.util.Arrays;
 import java.util.List;
+import java.util.Map;
 import java.util.Set;
+import java.util.TreeMap;
 import java.util.TreeSet;
 import java.util.regex.Matcher;
 import java.util.regex.Pattern;
@@ -112,11 +114,42 @@ public final class LanguageTest {
                 Check.holds("nothing like " + matcher.group() + " at " + matcher.start(), false);
             }
         }
+        Map<String, String> bodies = bodies(code);
+        Check.holds("all public methods are seen", bodies.keySet().containsAll(Arrays.asList("item", "boundThen", "restore")));
+        for (String name : bodies.keySet()) {
+            int deep = depth(name, bodies, new ArrayList<>());
+            Check.holds("calls go at most eight deep: " + name + " " + deep, deep <= 8);
+        }
         int length = 0;
         for (String line : code.split("\n")) {
             length = line.matches(" {4}( {4})?\\}") ? 0 : line.endsWith(") {") && line.matches(" {4}( {4})?\\S.*") ? 1 : length + 1;
             Check.holds("a method of sixty lines at most: " + line, line.contains("class ") || length <= 60);
         }
+    }
+
+    /** The bodies of the methods by their names; those of one name are taken as one. */
+    private static Map<String, String> bodies(String code) {
+        Map<String, String> bodies = new TreeMap<>();
+        Matcher head = Pattern.compile("(?m)^( {4}| {8})(?:\\w+(?:\\[\\])* )+(\\w+)\\([^()]*\\) \\{$").matcher(code);
+        while (head.find()) {
+            int end = code.indexOf("\n" + head.group(1) + "}", head.end());
+            bodies.merge(head.group(2), code.substring(head.end(), end), String::concat);
+        }
+        return bodies;
+    }
+
+    /** How deep the calls of a method go; a method that is open already is a recursion, and isn't followed. */
+    private static int depth(String name, Map<String, String> bodies, List<String> open) {
+        open.add(name);
+        int deepest = 0;
+        Matcher call = Pattern.compile("(\\w+)\\(").matcher(bodies.get(name));
+        while (call.find()) {
+            if (bodies.containsKey(call.group(1)) && !open.contains(call.group(1))) {
+                deepest = Math.max(deepest, depth(call.group(1), bodies, open));
+            }
+        }
+        open.remove(name);
+        return deepest + 1;
     }
 
     /** The calls make no objects: all rows are made in constructors. */

@@ -587,6 +587,10 @@ public final class PromisesTest {
         due("best(1)", x.best(1), 38);
         x.limit(2, 49);
         due("best(0)", x.best(0), 100);
+        x.drop(5);
+        x.limit(0, 49);
+        due("best(0), one above the limit", x.best(0), 60);
+        due("best(1), one above the limit", x.best(1), 1);
         for (int wrong : new int[] {-1, 2, MIN, MAX}) {
             due("best(" + wrong + ")", x.best(wrong), BAD_VALUE);
         }
@@ -683,12 +687,17 @@ public final class PromisesTest {
         x.item(0, 40, 0, 0);
         x.limit(0, 0);
         due("nothing that uses it fits", x.repaired(7), 1);
+        x = new RelaxedSteps();
+        x.item(0, 0, 0, 0);
+        x.item(999, 0, 1, 0);
+        x.limit(1, 0);
+        due("also what is as small as can be", x.repaired(3), 1);
     }
 
     private static void promise18() {
         Check.part("promise 18");
         RelaxedSteps x = new RelaxedSteps();
-        long[] wrong = {0, -1, 32, 127, 'a' << 8, 'a' << 16 | 'b', (long) 'a' << 56 | 'b', 1L << 63 | 'a', 1L << 63,
+        long[] wrong = {0, -1, 32, 127, 1 << 8 | 'a', 'a' << 8, 'a' << 16 | 'b', (long) 'a' << 56 | 'b', 1L << 63 | 'a', 1L << 63,
             'a' << 8 | 32, 31 << 8 | 'a', 255, 128, 0x6161616161616100L, 0x6161616161616120L, 0xFF61616161616161L,
             0x0100000000000061L, Long.MIN_VALUE, Long.MAX_VALUE};
         for (long w : wrong) {
@@ -929,6 +938,16 @@ public final class PromisesTest {
         x.repair();
         due("undo()", x.undo(), 0);
         due("count(4)", x.count(4), NONE);
+        x.item(1, 0, 0, 0);
+        x.item(1, 0, 0, 0);
+        x.step(1);
+        x.drop(0);
+        x.step(1);
+        due("bundle(0)", x.bundle(0), 1);
+        x.undo();
+        due("bundle(0)", x.bundle(0), NO_SUCH);
+        x.undo();
+        due("bundle(0)", x.bundle(0), 3);
     }
 
     private static void promise23() {

@@ -334,6 +334,11 @@ public final class PromisesTest {
         x.step(1);
         due("1 at least", x.ofDimension(2, 1), 49);
         x = new RelaxedSteps();
+        x.item(1, 51, 50, 50);
+        x.rule(TARGET, 9999);
+        x.step(1);
+        due("100 / 1", x.ofDimension(0, 1), 100);
+        x = new RelaxedSteps();
         x.item(999, 50, 50, 50);
         x.rule(TARGET, 9999);
         x.multiplier(0, 5);

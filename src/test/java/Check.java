@@ -1,3 +1,6 @@
+import java.lang.reflect.Method;
+import java.lang.reflect.Modifier;
+
 /** Compares answers with those that are due, and counts the wrong ones. */
 final class Check {
     private static int wrong = 0;
@@ -33,6 +36,23 @@ final class Check {
         if (wrong != 0) {
             System.exit(1);
         }
+    }
+
+    /** Runs every test of a class: its static methods of its own without arguments and without an answer. */
+    static void everyTestOf(Class<?> tests) throws Exception {
+        int ran = 0;
+        for (Method test : tests.getDeclaredMethods()) {
+            boolean isTest = Modifier.isStatic(test.getModifiers()) && !test.isSynthetic()
+                && test.getParameterCount() == 0 && test.getReturnType() == void.class;
+            if (isTest) {
+                test.setAccessible(true);
+                part(test.getName() + " names no sentence");
+                test.invoke(null);
+                holds("it says its sentence", !part.endsWith(" names no sentence"));
+                ran++;
+            }
+        }
+        System.out.println(ran + " tests of " + tests.getName());
     }
 
     /** Puts a text on the pad, up to eight characters a call. */
